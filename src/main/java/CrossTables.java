@@ -38,10 +38,10 @@ public final class CrossTables {
     private static final int TOLD_WRONG = 7;
 
     private static final int ROW_BYTES = 20;
-    private static final byte SIGN_N = 110;
-    private static final byte SIGN_F = 102;
-    private static final byte DIGIT_0 = 48;
-    private static final byte DIGIT_9 = 57;
+    private static final int SIGN_N = 110;
+    private static final int SIGN_F = 102;
+    private static final int DIGIT_0 = 48;
+    private static final int DIGIT_9 = 57;
 
     private final Section[] sections;
     private int sectionCount;
@@ -90,6 +90,7 @@ public final class CrossTables {
     public byte octet(int section, int i) throws NoSuchElementException, ArrayIndexOutOfBoundsException {
         Section s = existing(section);
         if (i < 0 || i >= s.size) {
+            // Rule 6 of LANGUAGE.md does not list this one, but the document names it here.
             throw new ArrayIndexOutOfBoundsException("the section has no such byte");
         }
         return s.bytes[i];
@@ -627,12 +628,13 @@ public final class CrossTables {
         }
 
         void step() {
+            int size = table == null ? 0 : table.size;
             begin = end;
-            while (begin < sizeOf() && isBlank(byteAt(begin))) {
+            while (begin < size && isBlank(byteAt(begin))) {
                 begin++;
             }
             end = begin;
-            while (end < sizeOf() && !isBlank(byteAt(end))) {
+            while (end < size && !isBlank(byteAt(end))) {
                 end++;
             }
         }
@@ -661,12 +663,8 @@ public final class CrossTables {
             return number;
         }
 
-        boolean isOnly(byte sign) {
+        boolean isOnly(int sign) {
             return end - begin == 1 && byteAt(begin) == sign;
-        }
-
-        private int sizeOf() {
-            return table == null ? 0 : table.size;
         }
 
         private byte byteAt(int i) {
