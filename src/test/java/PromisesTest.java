@@ -231,6 +231,9 @@ public final class PromisesTest {
         table(x, 0, -1, "99 1 59 99999 n ");
         x.read(0);
         due("head: the newer one stands", x.kind(99), 2);
+        table(x, 1, -1, "98 2 " + row(0, 0, 'f') + row(0, 0, 'f'));
+        x.read(1);
+        due("head: the last of 60", allTold(x), "6/99/59");
     }
 
     private static void reading() {
@@ -290,7 +293,6 @@ public final class PromisesTest {
     private static String toldOfTable(String bytes) {
         CrossTables x = new CrossTables();
         table(x, 0, -1, bytes);
-        // Free rows of object 0 and above 99 tell nothing more, so that only what is wrong in the table is told.
         x.read(0);
         return allTold(x);
     }
@@ -468,6 +470,8 @@ public final class PromisesTest {
         x.read(10);
         due("trailer: of the chain alone", x.trailer(1), 1);
         due("trailer: still", x.trailer(0), 10);
+        x.key(9, 3, 7);
+        due("trailer: by the values of now", x.trailer(3), 9);
     }
 
     private static void freeOnes() {
