@@ -683,6 +683,10 @@ public final class CrossTables {
         private int owner;
         private long turn;
         private long due;
+        private int pairBegin;
+        private long pairFirst;
+        private long pairSecond;
+        private int pairKind;
 
         RowReader(Reading reading) {
             this.reading = reading;
@@ -704,7 +708,7 @@ public final class CrossTables {
             tokens.open(table);
             boolean isSound = true;
             for (int i = 0; i < MOST_BYTES && isSound && isMoreToRead(); i++) {
-                isSound = readPair();
+                isSound = scanPair() && (pairKind == NOTHING ? takeBeginning() : takeTableRow());
             }
         }
 
@@ -713,23 +717,20 @@ public final class CrossTables {
         }
 
         /** Two NUMBERS; what stands behind them decides what they are. False when something is wrong. */
-        private boolean readPair() {
-            int begin = tokens.begin;
+        private boolean scanPair() {
+            pairBegin = tokens.begin;
             if (!tokens.isNumber()) {
                 return refuse(tokens.begin);
             }
-            long first = tokens.number();
+            pairFirst = tokens.number();
             tokens.step();
             if (!tokens.isNumber()) {
                 return refuse(tokens.begin);
             }
-            long second = tokens.number();
+            pairSecond = tokens.number();
             tokens.step();
-            int what = kindBySign();
-            if (what == NOTHING) {
-                return takeBeginning(begin, first, second);
-            }
-            return takeTableRow(begin, what, first, second);
+            pairKind = kindBySign();
+            return true;
         }
 
         private int kindBySign() {
@@ -739,24 +740,24 @@ public final class CrossTables {
             return tokens.isOnly(SIGN_F) ? FREE : NOTHING;
         }
 
-        private boolean takeBeginning(int begin, long first, long many) {
-            if (due > 0 || many > MOST_DUE) {
-                return refuse(begin);
+        private boolean takeBeginning() {
+            if (due > 0 || pairSecond > MOST_DUE) {
+                return refuse(pairBegin);
             }
-            turn = first;
-            due = many;
+            turn = pairFirst;
+            due = pairSecond;
             return true;
         }
 
-        private boolean takeTableRow(int begin, int what, long first, long second) {
+        private boolean takeTableRow() {
             if (due == 0) {
-                return refuse(begin);
+                return refuse(pairBegin);
             }
             tokens.step();
-            if (tokens.begin != begin + ROW_BYTES) {
-                reading.tell(TOLD_ODD, owner, begin);
+            if (tokens.begin != pairBegin + ROW_BYTES) {
+                reading.tell(TOLD_ODD, owner, pairBegin);
             }
-            reading.takeRow(turn, what, first, second);
+            reading.takeRow(turn, pairKind, pairFirst, pairSecond);
             turn++;
             due--;
             return true;
