@@ -15,8 +15,7 @@ import java.util.regex.Pattern;
  * Runs of calls, the same in every run of this test, on the class and on a second program that was written
  * from the document alone, with the library's lists and patterns; every answer must be the same.
  */
-public final class ModelTest {
-    private static final long LAST_PLACE = 9999999999L;
+public final class ModelTest extends Checks {
     private static final int RUNS = 6000;
 
     /** The document, in other words than the class's. */
@@ -333,10 +332,6 @@ public final class ModelTest {
         }
     }
 
-    private interface Call {
-        long answer();
-    }
-
     private static int wrong = 0;
     private final Random random;
     private final CrossTables x = new CrossTables();
@@ -350,16 +345,6 @@ public final class ModelTest {
     private ModelTest(long seed) {
         this.seed = seed;
         random = new Random(seed);
-    }
-
-    private static String answerOf(Call call) {
-        try {
-            return String.valueOf(call.answer());
-        } catch (RuntimeException e) {
-            String text = e.getMessage();
-            boolean byMachine = text != null && (text.startsWith("Index ") || text.startsWith("Cannot "));
-            return "throws." + e.getClass().getSimpleName() + (byMachine ? " by the machine" : "");
-        }
     }
 
     private void same(String what, Call got, Call want) {
