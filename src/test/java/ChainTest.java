@@ -48,6 +48,10 @@ public final class ChainTest extends Checks {
             }
             dueChain("the longest", x, 11, "11 10 9 8 7 6 5 4 3 2 1 0", "");
             dueChain("from within", x, 2, "2 1 0", "");
+            x.read(11);
+            due("the 13th in the longest", x.revision(5, 12), -1);
+            due("one of which none tells", x.revision(6, 0), -1);
+            due("a key of which none has a value", x.trailer(9), -1);
         });
         sentence("and so on: all 12, six of them beside", () -> {
             CrossTables x = new CrossTables();
