@@ -90,7 +90,7 @@ public final class CrossTables {
     public byte octet(int section, int i) throws NoSuchElementException, ArrayIndexOutOfBoundsException {
         Section s = existing(section);
         if (i < 0 || i >= s.size) {
-            // Rule 6 of LANGUAGE.md does not list this one, but the document names it here.
+            // Rule 6 of LANGUAGE.md lists no such exception, but a call must throw just what the document names.
             throw new ArrayIndexOutOfBoundsException("the section has no such byte");
         }
         return s.bytes[i];

@@ -41,6 +41,11 @@ public final class FaceTest {
         "Random", "Thread", "@Override", "equals", "hashCode", "toString", "static \\{", "class \\w+ extends",
     };
 
+    /** What rule 6 lets a method throw; the document names one more, of octet alone. */
+    private static final List<String> THROWN = List.of("IllegalStateException", "IllegalArgumentException",
+            "IndexOutOfBoundsException", "ArithmeticException", "UnsupportedOperationException",
+            "NoSuchElementException", "RuntimeException");
+
     private static int wrong = 0;
 
     private static void mustHold(String what, boolean holds) {
@@ -124,6 +129,21 @@ public final class FaceTest {
         mustHold("no package line", !Pattern.compile("(?m)^package").matcher(code).find());
         mustHold("written signs alone", all.chars().allMatch(c -> c == '\n' || c >= 32 && c < 127));
         methodsAreShort(bare);
+        throwsAreListed(bare);
+    }
+
+    private static void throwsAreListed(String code) {
+        String ofOctet = "throw new ArrayIndexOutOfBoundsException(\"\");";
+        int octet = code.indexOf("public byte octet(");
+        int next = code.indexOf("public long beside(");
+        int at = code.indexOf(ofOctet);
+        mustHold("octet throws what the document names", octet >= 0 && octet < at && at < next);
+        String others = code.replaceFirst(Pattern.quote(ofOctet), "");
+        Matcher thrown = Pattern.compile("\\bthrow\\b(?: new (\\w+)\\(\"\"\\);)?").matcher(others);
+        while (thrown.find()) {
+            String name = thrown.group(1);
+            mustHold("rule 6 lists what is thrown: " + thrown.group(), name != null && THROWN.contains(name));
+        }
     }
 
     private static void methodsAreShort(String code) {

@@ -16,7 +16,9 @@ import java.util.regex.Pattern;
  * from the document alone, with the library's lists and patterns; every answer must be the same.
  */
 public final class ModelTest extends Checks {
-    private static final int RUNS = 6000;
+    private static final int RUNS = 20000;
+    /** Behind so many calls the document leaves the answers free. */
+    private static final int MOST_CALLS = 512;
 
     /** The document, in other words than the class's. */
     private static final class Model {
@@ -338,6 +340,7 @@ public final class ModelTest extends Checks {
     private final Model model = new Model();
     private final StringBuilder history = new StringBuilder();
     private final long seed;
+    private int calls = 0;
     private boolean isBroken = false;
     /** Of each kind of told thing, how often it was met: a test that meets none would show nothing. */
     private static final long[] met = new long[8];
@@ -348,9 +351,10 @@ public final class ModelTest extends Checks {
     }
 
     private void same(String what, Call got, Call want) {
-        if (isBroken) {
+        if (isBroken || calls == MOST_CALLS) {
             return;
         }
+        calls++;
         String answer = answerOf(got);
         String due = answerOf(want);
         history.append(what).append(" = ").append(due).append('\n');
@@ -405,7 +409,8 @@ public final class ModelTest extends Checks {
 
     private String number() {
         if (oneIn(30)) {
-            String[] rare = {"9999999999", "10000000000", "4294967297", "x", "1x", "100", "101", "99", "-1", "n", "0000000000"};
+            String[] rare = {"9999999999", "10000000000", "4294967297", "x", "1x", "100", "101", "99", "-1", "n", "0000000000",
+                "1:", "1/"};
             return rare[random.nextInt(rare.length)];
         }
         return String.valueOf(random.nextInt(12));
@@ -491,57 +496,70 @@ public final class ModelTest extends Checks {
         model.told.forEach(t -> met[(int) t[0]]++);
     }
 
-    /** The class does not count its calls, so that all may be asked, beyond 512 too. */
-    private void askAll() {
-        for (int i = -2; i < 102; i++) {
-            int n = i;
-            same("kind(" + n + ")", () -> x.kind(n), () -> model.kind(n));
-            for (int j = -1; j < 3; j++) {
-                int what = j;
-                same("place(" + n + ", " + what + ")", () -> x.place(n, what), () -> model.place(n, what));
+    /** Questions, any of them, until so many calls have been made. */
+    private void askUntil(int most) {
+        for (int i = 0; i < MOST_CALLS && calls < most; i++) {
+            switch (random.nextInt(4)) {
+                case 0 -> askOfTold();
+                case 1 -> askOfSections();
+                default -> askOfObjects();
             }
-            for (int j = -2; j < 13; j++) {
-                int which = j;
-                same("revision(" + n + ", " + which + ")", () -> x.revision(n, which), () -> model.revision(n, which));
-            }
-            same("free(" + n + ")", () -> x.free(n), () -> model.free(n));
-        }
-        for (int i = -2; i <= model.told.size(); i++) {
-            for (int j = -1; j < 4; j++) {
-                int n = i;
-                int what = j;
-                same("told(" + n + ", " + what + ")", () -> x.told(n, what), () -> model.told(n, what));
-            }
-        }
-        for (int i = -1; i < 11; i++) {
-            int key = i;
-            int s = anySection();
-            int at = among(-1, 0, 1, 5, 299, 300, random.nextInt(300));
-            same("trailer(" + key + ")", () -> x.trailer(key), () -> model.trailer(key));
-            same("value(" + s + ", " + key + ")", () -> x.value(s, key), () -> model.value(s, key));
-            same("octet(" + s + ", " + at + ")", () -> x.octet(s, at), () -> model.octet(s, at));
         }
     }
 
-    private void run() {
-        int steps = 10 + random.nextInt(50);
-        for (int i = 0; i < steps && !isBroken; i++) {
+    private void askOfObjects() {
+        int n = anyObject();
+        int what = oneIn(20) ? among(-1, 2) : random.nextInt(2);
+        int which = oneIn(20) ? among(-2, 11, 12, Integer.MAX_VALUE) : random.nextInt(5) - 1;
+        int i = oneIn(20) ? among(-2, 99, 100, Integer.MAX_VALUE) : random.nextInt(6) - 1;
+        same("kind(" + n + ")", () -> x.kind(n), () -> model.kind(n));
+        same("place(" + n + ", " + what + ")", () -> x.place(n, what), () -> model.place(n, what));
+        same("revision(" + n + ", " + which + ")", () -> x.revision(n, which), () -> model.revision(n, which));
+        same("free(" + i + ")", () -> x.free(i), () -> model.free(i));
+    }
+
+    private void askOfTold() {
+        int i = oneIn(20) ? among(-2, 200, model.told.size()) : random.nextInt(model.told.size() + 1) - 1;
+        int what = oneIn(20) ? among(-1, 3) : random.nextInt(3);
+        same("told(" + i + ", " + what + ")", () -> x.told(i, what), () -> model.told(i, what));
+    }
+
+    private void askOfSections() {
+        int key = random.nextInt(12) - 1;
+        int s = anySection();
+        int at = oneIn(3) ? among(-1, 0, 299, 300) : random.nextInt(40);
+        same("trailer(" + key + ")", () -> x.trailer(key), () -> model.trailer(key));
+        same("value(" + s + ", " + key + ")", () -> x.value(s, key), () -> model.value(s, key));
+        same("octet(" + s + ", " + at + ")", () -> x.octet(s, at), () -> model.octet(s, at));
+    }
+
+    private void makeUntil(int most) {
+        for (int i = 0; i < MOST_CALLS && calls < most; i++) {
             int which = random.nextInt(20);
-            if (which < 5) {
+            if (which < 6) {
                 section();
             } else if (which < 9) {
                 fill();
-            } else if (which < 13) {
+            } else if (which < 14) {
                 change();
-            } else if (which < 17) {
+            } else if (which < 19) {
                 head();
             } else {
                 read();
             }
         }
-        askAll();
+    }
+
+    private void run() {
+        int made = 20 + random.nextInt(300);
+        askUntil(random.nextInt(8));
+        makeUntil(made);
         read();
-        askAll();
+        askUntil(made + 60);
+        makeUntil(made + 60 + random.nextInt(40));
+        askUntil(made + 130);
+        read();
+        askUntil(MOST_CALLS);
     }
 
     public static void main(String[] args) {
